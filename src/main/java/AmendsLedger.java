@@ -55,7 +55,7 @@ public final class AmendsLedger {
     private static final int CUSTOMER_PLACE = 5;
 
     private static final long FIRST_HASH = 2539L;
-    private static final double TWO_TO_52 = 4503599627370496.0;
+    private static final int FRACTION_BITS = 52;
     private static final long EXPONENT_OF_ONE = 1023L;
 
     private final State now = new State();
@@ -425,7 +425,8 @@ public final class AmendsLedger {
             scaled = scaled * 2.0;
             exponent--;
         }
-        return (exponent << 52) | (long) ((scaled - 1.0) * TWO_TO_52);
+        double fraction = (scaled - 1.0) * (double) (1L << FRACTION_BITS);
+        return (exponent << FRACTION_BITS) | (long) fraction;
     }
 
     // ---- the buffer

@@ -18,6 +18,8 @@ public final class ComplaintsTest {
         promise8TooLate();
         promise9TopUpsAtOnce();
         promise9NothingToRaise();
+        promise9AsDearOrCheaper();
+        promise9DifferenceOfOne();
         promise9EarlierPrecedent();
         promise9RaisedByAnotherAmends();
         promise9JudgeRefused();
@@ -265,6 +267,59 @@ public final class ComplaintsTest {
         x.appeal(0);
         x.judge(0, 2);
         CHECKS.due("its month stays", x.precedent(0, 2, 1), 0);
+    }
+
+    private static void promise9AsDearOrCheaper() {
+        AmendsLedger x = new AmendsLedger();
+        x.offer(0, 100, 1, 9);
+        x.offer(0, 100, 1, 9);
+        x.offer(0, 150, 1, 9);
+        x.offer(0, 200, 1, 9);
+        complaints(x, 3, 1);
+        for (int i = 0; i < 3; i++) {
+            x.decide(i, 0, 0);
+        }
+        x.appeal(0);
+        CHECKS.due("another amends that costs the same", x.judge(0, 1), 0);
+        CHECKS.due("the complaint has it", x.complaint(0, 5), 1);
+        CHECKS.due("the precedent stays", x.precedent(0, 0, 0), 0);
+        x.offer(0, 300, 1, 9);
+        x.appeal(1);
+        CHECKS.due("nothing is left for the others", x.judge(1, 4), 0);
+        x.base(0, 60);
+        x.set(2, 0);
+        x.closeMonth();
+        x.appeal(2);
+        CHECKS.due("less than the precedent now has", x.judge(2, 2), 0);
+        CHECKS.due("the precedent stays", x.precedent(0, 0, 0), 4);
+        CHECKS.due("waits for the rest", x.complaint(2, 10), 150);
+        CHECKS.due("judged", x.complaint(2, 4), 3);
+        x.base(0, 200);
+        CHECKS.due("whatever the stage", x.closeMonth(), 200);
+        CHECKS.due("the lower number comes first", x.complaint(0, 10), 0);
+        CHECKS.due("a judged one gets its amends later", x.closeMonth(), 150);
+        CHECKS.due("its amends", x.complaint(2, 5), 4);
+    }
+
+    private static void promise9DifferenceOfOne() {
+        AmendsLedger x = new AmendsLedger();
+        x.offer(0, 100, 1, 9);
+        x.offer(0, 101, 1, 9);
+        complaints(x, 2, 1);
+        x.decide(0, 0, 0);
+        x.decide(1, 0, 0);
+        x.base(0, 1);
+        x.set(2, 0);
+        x.closeMonth();
+        x.appeal(0);
+        CHECKS.due("the last one is spent", x.judge(0, 1), 0);
+        CHECKS.due("one waits", x.count(7), 1);
+        CHECKS.due("for one", x.complaint(1, 10), 1);
+        x.undo();
+        x.base(0, 2);
+        x.closeMonth();
+        CHECKS.due("one gets it", x.judge(0, 1), 1);
+        CHECKS.due("nothing is left", x.kind(0, 3), 0);
     }
 
     private static void promise9EarlierPrecedent() {

@@ -17,6 +17,8 @@ public final class FaceTest {
     private static final String INDEX = "IndexOutOfBoundsException ";
     private static final String ARGUMENT = "IllegalArgumentException ";
     private static final String STATE = "IllegalStateException ";
+    private static final Set<String> STATIC_TYPES = Set.of("int", "long", "boolean", "char",
+            "String", "int[]", "long[]", "char[]", "byte[]");
     private static final int LONGEST_METHOD = 60;
     private static final int MOST_CLASSES = 12;
     private static final int MOST_FIELDS = 20;
@@ -122,6 +124,8 @@ public final class FaceTest {
             if (Modifier.isStatic(field.getModifiers())) {
                 CHECKS.due(field + " is final", field.getModifiers() & Modifier.FINAL,
                         Modifier.FINAL);
+                String type = field.getType().getSimpleName();
+                CHECKS.due(field + " is a constant", STATIC_TYPES.contains(type) ? 1 : 0, 1);
             }
         }
     }

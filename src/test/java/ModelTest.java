@@ -194,7 +194,11 @@ public final class ModelTest {
     }
 
     private int cost() {
-        return pick(8) == 0 ? near(0, 999, -1, 1000) : 5 * pick(narrow ? 25 : 40);
+        int kind = pick(8);
+        if (kind < 2) {
+            return kind == 0 ? near(0, 999, -1, 1000) : pick(4);
+        }
+        return 5 * pick(narrow ? 25 : 40);
     }
 
     private int amends() {

@@ -14,6 +14,7 @@ public final class TextsTest {
         promise14Refused();
         promise15Undo();
         promise15EveryUndoable();
+        promise15EarlierPrecedent();
         promise15LooksAndTextsAreNotSaved();
         CHECKS.end();
     }
@@ -196,6 +197,24 @@ public final class TextsTest {
         CHECKS.due("changed by " + call, x.digest() == before ? 1 : 0, 0);
         CHECKS.due("undo of " + call, x.undo(), 5);
         CHECKS.due("digest after undo of " + call, x.digest(), before);
+    }
+
+    private static void promise15EarlierPrecedent() {
+        AmendsLedger x = new AmendsLedger();
+        x.offer(0, 10, 1, 9);
+        x.offer(0, 20, 1, 9);
+        x.complain(0, 1, 0);
+        x.complain(0, 1, 1);
+        x.decide(0, 0, 0);
+        x.set(0, 1);
+        x.closeMonth();
+        CHECKS.due("another precedent", x.decide(1, 1, 0), 1);
+        CHECKS.due("the latest", x.precedent(0, 0, 2), 1);
+        x.undo();
+        CHECKS.due("the earlier one again", x.precedent(0, 0, 2), 0);
+        CHECKS.due("its month", x.precedent(0, 0, 1), 0);
+        x.undo();
+        CHECKS.due("binds again", x.precedent(0, 0, 3), 1);
     }
 
     private static void promise15LooksAndTextsAreNotSaved() {

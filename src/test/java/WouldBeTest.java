@@ -290,7 +290,7 @@ public final class WouldBeTest {
     }
 
     private static void promise28Digest() {
-        AmendsLedger[] all = {new AmendsLedger(), appealed(), waiting()};
+        AmendsLedger[] all = {new AmendsLedger(), appealed(), waiting(), bound()};
         for (AmendsLedger x : all) {
             long digest = x.digest();
             CHECKS.due("digest changes nothing", x.digest(), digest);
@@ -302,6 +302,17 @@ public final class WouldBeTest {
             x.append(text.charAt(i));
         }
         CHECKS.due("digest with a text", x.digest(), listed(x, text));
+    }
+
+    /** An open complaint for which a precedent binds that has the amends 1. */
+    private static AmendsLedger bound() {
+        AmendsLedger x = new AmendsLedger();
+        x.offer(3, 10, 1, 9);
+        x.offer(3, 20, 1, 9);
+        x.complain(3, 8, 0);
+        x.complain(3, 9, 1);
+        x.decide(0, 1, 0);
+        return x;
     }
 
     /** Each share of up to 24 decisions: the program works its bits out by itself. */
