@@ -33,7 +33,7 @@ public final class ModelTest {
     private final Checks checks = new Checks("ModelTest");
     private final Map<String, Integer> met = new TreeMap<>();
     private long seed;
-    /** Half of the runs keep mostly to one kind and one class, so that precedents have followers. */
+    /** Half of the runs keep mostly to one kind and class, so that precedents have followers. */
     private boolean narrow;
     private Model model;
 
