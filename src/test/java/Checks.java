@@ -1,3 +1,5 @@
+import java.util.function.LongSupplier;
+
 /** Counts the answers that are not as due, and ends a test with exit code 1 if there was one. */
 final class Checks {
     private final String test;
@@ -30,6 +32,15 @@ final class Checks {
         System.out.println(test + ": " + done + " checks, " + wrong + " wrong");
         if (wrong != 0 || done == 0) {
             System.exit(1);
+        }
+    }
+
+    /** The answer, or the name of the exception. */
+    static String outcome(LongSupplier action) {
+        try {
+            return Long.toString(action.getAsLong());
+        } catch (RuntimeException e) {
+            return e.getClass().getSimpleName();
         }
     }
 
