@@ -69,7 +69,7 @@ final class Edges {
         checks.end();
     }
 
-    /** The oldest of six saved states is dropped, so that the next one needs no place of another. */
+    /** Of six saved states the oldest is dropped, so that one more will be counted. */
     private static AmendsLedger withRoom(AmendsLedger x) {
         x.base(0, x.kind(0, 0));
         x.undo();

@@ -268,6 +268,8 @@ public final class EdgesOfComplaintsTest {
         AmendsLedger y = Ledgers.withBudget(Ledgers.offering(999), 999);
         y.complain(0, 1, 0);
         EDGES.allowed("999 of 999", () -> y.decide(0, 0, 0), 1);
+        EDGES.due("spent", y.kind(0, 2), 999);
+        EDGES.due("got", y.complaint(0, 6), 999);
         EDGES.state("999 of 998", EdgesOfComplaintsTest::with998, z -> z.decide(0, 0, 0));
     }
 

@@ -23,6 +23,7 @@ public final class EdgesOfJudgementsTest {
         promise9NoneToAll();
         promise9AscendingAsFarAsItGoes();
         promise9WhateverTheStage();
+        promise9WhateverTheSeverity();
         promise9Waits();
         promise9EarlierPrecedent();
         promise9Undoable();
@@ -33,6 +34,7 @@ public final class EdgesOfJudgementsTest {
         promise10TheMoney();
         promise10AtMostWhatIsLeft();
         promise10AscendingNumbers();
+        promise10GotAsMuch();
         promise10KindsApart();
         promise10Likewise();
         promise10Undoable();
@@ -215,6 +217,8 @@ public final class EdgesOfJudgementsTest {
         EDGES.due("the month in which it was set", x.precedent(0, 0, 1), 0);
         EDGES.due("the complaint that set it", x.precedent(0, 0, 2), 0);
         EDGES.due("binds", x.precedent(0, 0, 3), 1);
+        EDGES.due("not with its earlier amends", x.whyNot(2, 0, 0), 4);
+        EDGES.allowed("a decision follows it", () -> x.decide(2, 1, 0), 2);
         x.closeMonth();
         EDGES.due("binds no more", x.precedent(0, 0, 3), 0);
         EDGES.due("the months of the decisions", x.complaint(1, 8), 0);
@@ -248,8 +252,8 @@ public final class EdgesOfJudgementsTest {
     }
 
     private static void promise9AscendingAsFarAsItGoes() {
-        EDGES.terms("9", "by ascending numbers: each one whose difference is at most what is left of"
-                + " the budget gets it at once");
+        EDGES.terms("9", "by ascending numbers: each one whose difference is at most what is left"
+                + " of the budget gets it at once");
         int[][] due = {
             {131, 2, 7, 131, 131}, {133, 2, 1, 133, 133}, {134, 1, 2, 134, 130},
             {135, 1, 0, 135, 130}, {136, 0, 4, 130, 130}, {140, 0, 0, 130, 130}};
@@ -281,6 +285,24 @@ public final class EdgesOfJudgementsTest {
             EDGES.due("got", x.complaint(i, 6), i == 6 ? 0 : 2);
         }
         EDGES.allowed("judged after its top-up", () -> x.judge(3, 1), 0);
+    }
+
+    /** The range of an amends counts for decisions and judgements alone. */
+    private static void promise9WhateverTheSeverity() {
+        EDGES.terms("9", "each one whose difference is at most what is left of the budget gets it");
+        AmendsLedger x = Ledgers.offering(0);
+        x.offer(0, 300, 2, 2);
+        for (int severity = 1; severity <= 3; severity++) {
+            x.complain(0, severity, 0);
+            x.decide(severity - 1, 0, 0);
+        }
+        x.appeal(1);
+        Ledgers.withBudget(x, 600);
+        EDGES.allowed("severity 1 of 2 to 2", () -> x.judge(1, 1), 1);
+        EDGES.due("got", x.complaint(0, 6), 300);
+        EDGES.due("waits", x.complaint(2, 10), 300);
+        EDGES.allowed("severity 3 of 2 to 2", x::closeMonth, 300);
+        EDGES.due("its amends", x.complaint(2, 5), 1);
     }
 
     private static void promise9Waits() {
@@ -435,6 +457,19 @@ public final class EdgesOfJudgementsTest {
             EDGES.due("the second", x.complaint(3, 10), row[2]);
             EDGES.due("left", x.kind(0, 3), row[0] - row[1]);
         }
+    }
+
+    private static void promise10GotAsMuch() {
+        EDGES.terms("10", "has got less than the amends of that costs");
+        AmendsLedger x = Ledgers.following(3, 0, 5, 5);
+        x.appeal(0);
+        x.judge(0, 1);
+        x.appeal(1);
+        EDGES.allowed("another one for as much", () -> x.judge(1, 2), 0);
+        EDGES.due("it does not wait", x.complaint(1, 10), 0);
+        EDGES.allowed("nobody waits", x::closeMonth, 0);
+        EDGES.due("it keeps its own", x.complaint(1, 5), 2);
+        EDGES.due("nothing is spent", x.kind(0, 2), 0);
     }
 
     private static void promise10KindsApart() {

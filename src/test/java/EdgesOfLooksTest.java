@@ -402,6 +402,11 @@ public final class EdgesOfLooksTest {
         }
         EDGES.due("all but one depart", x.count(8), 23);
         EDGES.due("none of these waits", x.count(7), 0);
+        AmendsLedger y = Ledgers.offering(1, 2);
+        Ledgers.complain(y, 24, 1);
+        y.decide(23, 0, 0);
+        y.decide(0, 1, 1);
+        EDGES.due("the first of all departs", y.count(8), 1);
     }
 
     private static void promise20Precedents() {
@@ -432,6 +437,12 @@ public final class EdgesOfLooksTest {
         y.decide(2, 1, 1);
         EDGES.due("departing and open ones are not alike", y.count(10), 0);
         EDGES.due("nor those of several precedents", Ledgers.precedents24().count(10), 0);
+        AmendsLedger z = Ledgers.following(2, 0, 5, 5);
+        z.appeal(0);
+        z.judge(0, 1);
+        z.appeal(1);
+        z.judge(1, 2);
+        EDGES.due("two amends at one cost", z.count(10), 0);
     }
 
     private static void promise20SavedStates() {

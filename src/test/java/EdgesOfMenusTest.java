@@ -97,6 +97,7 @@ public final class EdgesOfMenusTest {
 
     private static void promise1NothingIsSaved() {
         EDGES.promise(1, "Creates a ledger");
+        EDGES.due("NONE", AmendsLedger.NONE, -1);
         EDGES.due("saved states", new AmendsLedger().count(11), 0);
         EDGES.state("undo", AmendsLedger::new, AmendsLedger::undo);
     }

@@ -347,6 +347,10 @@ public final class EdgesOfTextsTest {
         EDGES.allowed("undo", y::undo, 5);
         EDGES.due("both are gone", y.count(0), 6);
         EDGES.due("the buffer does not come back", y.clearBuffer(), 0);
+        EDGES.undoable("complainAll", () -> Ledgers.livedTelling(EIGHT), z -> {
+            z.complainAll();
+            Ledgers.append(z, EIGHT);
+        });
     }
 
     // ---- promise 15

@@ -532,6 +532,19 @@ public final class EdgesOfWouldBeTest {
         values("top-ups", () -> Ledgers.raisedOnce(133), "");
         values("a menu of one amends", EdgesOfWouldBeTest::appealedOfOne, "");
         values("an empty menu", EdgesOfWouldBeTest::open24, "");
+        for (int i = 1; i <= 23; i++) {
+            int departing = i;
+            values(departing + " of 24 depart", () -> departing24(departing), "");
+        }
+    }
+
+    private static AmendsLedger departing24(int departing) {
+        AmendsLedger x = Ledgers.offering(0, 0);
+        Ledgers.complain(x, 24, 1);
+        for (int i = 0; i < 24; i++) {
+            x.decide(23 - i, i < 24 - departing ? 0 : 1, 1);
+        }
+        return x;
     }
 
     private static AmendsLedger appealedOfOne() {

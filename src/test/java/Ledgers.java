@@ -107,9 +107,9 @@ final class Ledgers {
     }
 
     /**
-     * For reasons against decisions. Kind 0 has amends for 100 (severity 4 to 6), 100 (5 to 5), 400,
-     * 401, 1 (taken off) and 999 (9 to 9). Complaint 0 has set a precedent with the amends 0, and
-     * 400 is left; open are 1 (severity 5), 2 (4), 3 (6), 4 (3), 5 (7) and 6 (9).
+     * For reasons against decisions. Kind 0 has amends for 100 (severity 4 to 6), 100 (5 to 5),
+     * 400, 401, 1 (taken off) and 999 (9 to 9). Complaint 0 has set a precedent with the amends 0,
+     * and 400 is left; open are 1 (severity 5), 2 (4), 3 (6), 4 (3), 5 (7) and 6 (9).
      */
     static AmendsLedger toDecide() {
         AmendsLedger x = new AmendsLedger();

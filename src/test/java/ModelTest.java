@@ -9,6 +9,8 @@ import java.util.TreeMap;
 public final class ModelTest {
     private static final int RUNS = 700;
     private static final int CALLS = 512;
+    private static final int[] FAR_OFF = {Integer.MIN_VALUE, Integer.MIN_VALUE + 1, -1000,
+        Integer.MAX_VALUE - 1, Integer.MAX_VALUE};
     /** A name that stands here often is called often. */
     private static final String[] CHANGES = {
         "offer", "offer", "offer", "takeOff", "base", "base", "set", "set", "complain", "complain",
@@ -28,7 +30,8 @@ public final class ModelTest {
             "complainAll 24", "complain throws.IllegalStateException",
             "complainAll throws.IllegalStateException", "decide throws.IllegalStateException",
             "judge throws.IllegalStateException", "appeal throws.IllegalStateException",
-            "offer throws.IllegalStateException", "append throws.IllegalStateException");
+            "offer throws.IllegalStateException", "append throws.IllegalStateException",
+            "closeMonth throws.IllegalStateException");
 
     private final Checks checks = new Checks("ModelTest");
     private final Map<String, Integer> met = new TreeMap<>();
@@ -56,9 +59,12 @@ public final class ModelTest {
         AmendsLedger program = new AmendsLedger();
         model = new Model();
         narrow = run % 2 == 0;
-        int settled = pick(3) == 0 ? 0 : 60;
+        boolean late = run % 7 == 6;
+        int settled = late ? 4 + pick(5) : pick(3) == 0 ? 0 : 60;
+        int closed = settled + (late ? monthsClosed() : 0);
         for (int call = 0; call < CALLS; call++) {
-            String name = call % 3 == 0 ? "digest" : nameFor(call, settled);
+            String name = call >= settled && call < closed ? "closeMonth"
+                    : call % 3 == 0 ? "digest" : nameFor(call, settled);
             if (name.equals("text")) {
                 call += appendText(program, run, call) - 1;
                 continue;
@@ -66,6 +72,11 @@ public final class ModelTest {
             Object[] told = argumentsFor(name);
             compare(program, name, told, run, call);
         }
+    }
+
+    /** Some runs come to the last month, and the others near it, with calls left for more. */
+    private int monthsClosed() {
+        return pick(2) == 0 ? 496 + pick(6) : 430 + pick(60);
     }
 
     private String nameFor(int call, int settled) {
@@ -159,7 +170,7 @@ public final class ModelTest {
     private int fitting(int complaint, int reason) {
         int amends = amends();
         for (int i = 0; i < 6 && pick(6) != 0; i++) {
-            int other = (amends + i + 6) % 6;
+            int other = Math.floorMod(amends + i, 6);
             if (model.whyNot(complaint, other, reason) == 0) {
                 return other;
             }
@@ -171,7 +182,7 @@ public final class ModelTest {
     private int complaintIn(int stage) {
         int complaint = complaint();
         for (int i = 0; i < 24 && pick(20) != 0; i++) {
-            int other = (complaint + i + 24) % 24;
+            int other = Math.floorMod(complaint + i, 24);
             if (other < model.count(0) && model.complaint(other, 4) == stage) {
                 return other;
             }
@@ -209,13 +220,14 @@ public final class ModelTest {
         return pick(3) == 0 ? near(0, 23, -1, 24) : pick(12);
     }
 
-    /** Mostly from least to most; at times one of the two others. */
+    /** Mostly from least to most; at times one of the two others, or one that is far off. */
     private int near(int least, int most, int low, int high) {
-        int kind = pick(60);
-        if (kind == 0) {
-            return low;
+        switch (pick(60)) {
+            case 0: return low;
+            case 1: return high;
+            case 2: return pick(4) == 0 ? FAR_OFF[pick(FAR_OFF.length)] : most;
+            default: return least + pick(most - least + 1);
         }
-        return kind == 1 ? high : least + pick(most - least + 1);
     }
 
     private static Object[] row(int... values) {
