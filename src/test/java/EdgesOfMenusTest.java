@@ -8,6 +8,7 @@ public final class EdgesOfMenusTest {
         promise1WithoutComplaints();
         promise1WithoutAmends();
         promise1InTheMonth0();
+        promise1BaseAndBudget();
         promise1WithAnEmptyBuffer();
         promise1NothingIsSaved();
         promise2Kind();
@@ -78,6 +79,13 @@ public final class EdgesOfMenusTest {
     private static void promise1InTheMonth0() {
         EDGES.promise(1, "in the month 0");
         EDGES.due("the month", new AmendsLedger().count(5), 0);
+        AmendsLedger x = Ledgers.following(1, 0);
+        EDGES.due("a decision's month", x.complaint(0, 8), 0);
+        EDGES.due("a precedent's month", x.precedent(0, 0, 1), 0);
+    }
+
+    private static void promise1BaseAndBudget() {
+        EDGES.terms("1", "A kind has a base, .. at first 500, and a budget .., at first 500");
         for (int kind = 0; kind < 4; kind++) {
             AmendsLedger x = new AmendsLedger();
             EDGES.due("its base at first", x.kind(kind, 0), 500);
