@@ -20,6 +20,8 @@ public final class EdgesOfJudgementsTest {
         promise9DearerByOne();
         promise9ItsMonthStays();
         promise9RaisedWhenItBindsNoMore();
+        promise9BindsByTheAmendsItHas();
+        promise9BindsAgain();
         promise9NoneToAll();
         promise9AscendingAsFarAsItGoes();
         promise9WhateverTheStage();
@@ -234,6 +236,45 @@ public final class EdgesOfJudgementsTest {
         EDGES.allowed("raised all the same", () -> x.judge(1, 1), 1);
         EDGES.due("the precedent's amends", x.precedent(0, 0, 0), 1);
         EDGES.due("the setter got a top-up", x.complaint(0, 6), 2);
+    }
+
+    private static void promise9BindsByTheAmendsItHas() {
+        EDGES.terms("9", "this precedent has this amends from then on .. binds .. as long as its"
+                + " amends is offered");
+        AmendsLedger x = Ledgers.following(2, 1, 2);
+        Ledgers.complain(x, 2, 1);
+        x.appeal(1);
+        x.judge(1, 1);
+        x.takeOff(0, 0);
+        EDGES.due("its earlier amends is taken off", x.precedent(0, 0, 3), 1);
+        EDGES.allowed("a decision follows it", () -> x.decide(2, 1, 0), 2);
+        x.undo();
+        x.undo();
+        x.takeOff(0, 1);
+        EDGES.due("its amends is taken off", x.precedent(0, 0, 3), 0);
+        EDGES.due("its amends stays", x.precedent(0, 0, 0), 1);
+        EDGES.allowed("its earlier amends sets another one", () -> x.decide(2, 0, 0), 1);
+        EDGES.due("nobody waits for that", x.count(7), 0);
+    }
+
+    private static void promise9BindsAgain() {
+        EDGES.terms("9", "this precedent has this amends from then on .. binds .. setting 0 months"
+                + " together, as long as its amends is offered");
+        for (int months = 0; months <= 2; months++) {
+            AmendsLedger x = Ledgers.following(2, 1, 2, 3);
+            Ledgers.complain(x, 1, 1);
+            x.set(1, 3);
+            x.appeal(1);
+            Ledgers.later(x, months);
+            x.takeOff(0, 0);
+            EDGES.due("taken off, month " + months, x.precedent(0, 0, 3), 0);
+            EDGES.due("none binds, month " + months, x.whyNot(2, 2, 0), 0);
+            EDGES.allowed("raised, month " + months, () -> x.judge(1, 1), 1);
+            EDGES.due("offered again, month " + months, x.precedent(0, 0, 3), months < 2 ? 1 : 0);
+            EDGES.due("another one, month " + months, x.whyNot(2, 2, 0), months < 2 ? 4 : 0);
+            EDGES.allowed("the same one, month " + months, () -> x.decide(2, 1, 0),
+                    months < 2 ? 2 : 1);
+        }
     }
 
     private static void promise9NoneToAll() {

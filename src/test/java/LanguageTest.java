@@ -25,7 +25,7 @@ public final class LanguageTest {
 
     private static final List<String> NOT_WRITTEN = List.of("::", "\\bassert\\b",
             "\\bfinally\\b", "\\bsynchronized\\b", "\\bnative\\b", "\\w+Exact\\b",
-            "\\bDouble\\.(?!doubleToLongBits)", "\\bSystem\\.(?!arraycopy)", "(?m)^package\\b",
+            "\\bDouble\\b", "\\bSystem\\.(?!arraycopy)", "(?m)^package\\b",
             "\\bThread\\b", "\\bstatic \\{");
 
     private static final Checks CHECKS = new Checks("LanguageTest");
